@@ -91,7 +91,7 @@ public final class CardTabulator {
     }
 
     public int control(int which, int value) {
-        if (!isControl(which) || value != NONE && !isWithin(value, 0, MOST_CONTROL)) {
+        if (!isControl(which) || (value != NONE && !isWithin(value, 0, MOST_CONTROL))) {
             return BAD;
         }
         past.record(now);
@@ -138,7 +138,8 @@ public final class CardTabulator {
     }
 
     public int repunch(int card, int column, int digit) {
-        if (!now.deck.has(card) || !isColumn(column) || digit != NONE && !isWithin(digit, 0, 9)) {
+        if (!now.deck.has(card) || !isColumn(column)
+            || (digit != NONE && !isWithin(digit, 0, 9))) {
             return BAD;
         }
         past.record(now);
@@ -1172,7 +1173,7 @@ public final class CardTabulator {
 
         private static boolean isAhead(Totals one, Totals other) {
             return one.wages > other.wages
-                || one.wages == other.wages && one.key() < other.key();
+                || (one.wages == other.wages && one.key() < other.key());
         }
     }
 
@@ -1219,7 +1220,10 @@ public final class CardTabulator {
                     return noteFault(kind, place);
                 }
             }
-            return hasWord() && !endsBehindLetter() || noteFault(ENDS_EARLY, length);
+            if (!hasWord() || endsBehindLetter()) {
+                return noteFault(ENDS_EARLY, length);
+            }
+            return true;
         }
 
         private boolean noteFault(int kind, int place) {

@@ -32,11 +32,36 @@ public final class ModelTest {
     }
 
     private void go() {
+        if (run % 3 != 0) {
+            fillDeck();
+        }
+        int queries = run % 3 == 0 ? 1 : 6;
         while (calls < CALLS) {
-            if (random.nextInt(5) == 0) {
+            if (random.nextInt(5 + queries) < queries) {
                 query();
             } else {
                 change();
+            }
+        }
+    }
+
+    /** Many cards of few workers, most of which are accepted; so that reports grow long. */
+    private void fillDeck() {
+        int rule = random.nextInt(3);
+        due("set(0, " + rule + ")", x.set(0, rule), model.set(0, rule));
+        due("set(2, 9999)", x.set(2, 9999), model.set(2, 9999));
+        int limit = random.nextInt(run % 2 == 0 ? 1000 : 100);
+        due("set(3, " + limit + ")", x.set(3, limit), model.set(3, limit));
+        due("lay(5, 23, 1)", x.lay(5, 23, 1), model.lay(5, 23, 1));
+        due("lay(3, 14, 4)", x.lay(3, 14, 4), model.lay(3, 14, 4));
+        int few = 1 + random.nextInt(3);
+        while (model.cards() < 40 && calls < 250) {
+            due("wipe()", x.wipe(), model.wipe());
+            write("d" + random.nextInt(few) + " g" + random.nextInt(few) + " w"
+                + random.nextInt(few + 1) + " h" + digits(4) + " r" + digits(4));
+            for (int i = random.nextInt(8); i >= 0; i--) {
+                int place = random.nextInt(model.cards() + 1);
+                due("punch(" + place + ")", x.punch(place), model.punch(place));
             }
         }
     }
@@ -87,7 +112,10 @@ public final class ModelTest {
 
     private void type() {
         due("wipe()", x.wipe(), model.wipe());
-        String text = text();
+        write(text());
+    }
+
+    private void write(String text) {
         for (int i = 0; i < text.length() && calls < CALLS - 1; i++) {
             int code = text.charAt(i);
             due("write(" + code + ")", x.write(code), model.write(code));
@@ -102,13 +130,13 @@ public final class ModelTest {
         switch (random.nextInt(20)) {
             case 0:
                 type();
-                break;
-            case 1: case 2: case 3: case 4: case 5: {
+                // fall through: what was typed is punched
+            case 1: case 2: case 3: case 4: {
                 int place = number(cards + 1);
                 due("punch(" + place + ")", x.punch(place), model.punch(place));
                 break;
             }
-            case 6:
+            case 5: case 6:
                 repunch(a, column);
                 break;
             case 7:
