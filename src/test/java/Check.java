@@ -1,18 +1,31 @@
 /** Compares answers with the ones that are due, and helps tests to set up decks. */
 final class Check {
     private int wrong;
+    private String sentence = "";
+
+    /** Names the promise or the term that asks for the answers from here on. */
+    void under(String promiseOrTerm) {
+        sentence = promiseOrTerm + " -- ";
+    }
 
     void due(String call, long got, long want) {
         if (got != want) {
             wrong++;
-            System.out.println(call + " answered " + got + ", due is " + want);
+            System.out.println(sentence + call + " answered " + got + ", due is " + want);
+        }
+    }
+
+    void dueText(String call, String got, String want) {
+        if (!got.equals(want)) {
+            wrong++;
+            System.out.println(sentence + call + " answered " + got + ", due is " + want);
         }
     }
 
     void dueFloat(String call, float got, float want) {
         if (!(got == want)) {
             wrong++;
-            System.out.println(call + " answered " + got + ", due is " + want);
+            System.out.println(sentence + call + " answered " + got + ", due is " + want);
         }
     }
 
@@ -57,8 +70,42 @@ final class Check {
     void dueWorkers(String call, CardTabulator x, String want) {
         if (!workers(x).equals(want)) {
             wrong++;
-            System.out.println(call + " left the workers " + workers(x) + ", due are " + want);
+            System.out.println(sentence + call + " left the workers " + workers(x) + ", due are " + want);
         }
+    }
+
+    /** What the columns of a card show, from the first one on, '_' for a blank. */
+    static String columns(CardTabulator x, int card) {
+        StringBuilder told = new StringBuilder();
+        for (int column = 0; column < 24; column++) {
+            int digit = x.column(card, column);
+            told.append(digit == CardTabulator.NONE ? "_" : String.valueOf(digit));
+        }
+        return told.toString();
+    }
+
+    /** Columns behind those that are told are blank. */
+    void dueColumns(String call, CardTabulator x, int card, String want) {
+        dueText("columns of card " + card + " behind " + call, columns(x, card),
+            want + "_".repeat(24 - want.length()));
+    }
+
+    /** The kinds of all lines of the report. */
+    static String kinds(CardTabulator x) {
+        StringBuilder told = new StringBuilder();
+        for (int line = 0; line < x.told(1); line++) {
+            told.append(x.line(line, 0));
+        }
+        return told.toString();
+    }
+
+    /** The reasons of all cards of the latest run, which were so many. */
+    static String reasons(CardTabulator x, int cards) {
+        StringBuilder told = new StringBuilder();
+        for (int k = 0; k < cards; k++) {
+            told.append(x.reason(k));
+        }
+        return told.toString();
     }
 
     /** The fault that punch() finds in a text, which must be one. */

@@ -96,11 +96,7 @@ public final class TextTest {
     }
 
     private static void dueColumns(CardTabulator x, int card, String want) {
-        for (int column = 0; column < 24; column++) {
-            char sign = column < want.length() ? want.charAt(column) : '_';
-            CHECK.due("column(" + card + ", " + column + ") due " + want, x.column(card, column),
-                sign == '_' ? NONE : sign - '0');
-        }
+        CHECK.dueColumns("punch", x, card, want);
     }
 
     private static void punchedColumns() {
