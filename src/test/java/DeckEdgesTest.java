@@ -24,12 +24,14 @@ public final class DeckEdgesTest {
         passOfFewCards();
         passAsks();
         sortFromLastToFirst();
+        sortByItsColumnsAlone();
         sortCountsOnce();
         sortIsOneChange();
         sortOfLaidFields();
         sortOfFullDeck();
         columnAsks();
         cardAsks();
+        cardAsPunched();
         CHECK.end("DeckEdgesTest");
     }
 
@@ -90,6 +92,15 @@ public final class DeckEdgesTest {
         CHECK.due("card(0, 2)", x.card(0, 2), 1);
         CHECK.due("card(37, 2)", x.card(37, 2), 38);
         CHECK.due("card(38, 2)", x.card(38, 2), BAD);
+        Check.type(x, "w99");
+        CHECK.due("punch(38)", x.punch(38), 39);
+        CHECK.due("punch(39)", x.punch(39), 40);
+        CHECK.due("take(0) of 40 again", x.take(0), 39);
+        Check.type(x, "w77");
+        CHECK.due("punch(39)", x.punch(39), 40);
+        CHECK.due("card(37, 2)", x.card(37, 2), 99);
+        CHECK.due("card(38, 2)", x.card(38, 2), 99);
+        CHECK.due("card(39, 2)", x.card(39, 2), 77);
     }
 
     // ---- Promise 7
@@ -313,6 +324,23 @@ public final class DeckEdgesTest {
         CHECK.dueWorkers("sort(0) with a blank", z, "4 1 2 3");
     }
 
+    private static void sortByItsColumnsAlone() {
+        CHECK.under("Promise 11: by its columns, and by none before or behind them");
+        String[] texts = {"d22 g22 w222 h222 r2222", "d11 g11 w111 h111 r1111"};
+        int[] firsts = {0, 2, 4, 7, 10, 14};
+        int[] widths = {2, 2, 3, 3, 4, 1};
+        for (int field = 0; field < 6; field++) {
+            CardTabulator x = Check.deckOf(texts);
+            for (int i = 0; i < widths[field]; i++) {
+                x.repunch(0, firsts[field] + i, 3);
+                x.repunch(1, firsts[field] + i, 3);
+            }
+            x.repunch(0, 15, 2);
+            x.repunch(1, 15, 1);
+            CHECK.due("sort(" + field + ") of equal values", x.sort(field), 0);
+        }
+    }
+
     private static void sortCountsOnce() {
         CHECK.under("Promise 11: counts the cards that have another number behind all its passes");
         CardTabulator x = Check.deckOf("w12", "w21");
@@ -403,5 +431,23 @@ public final class DeckEdgesTest {
         x.take(1);
         CHECK.due("card(1, 7) behind take", x.card(1, 7), BAD);
         CHECK.due("card(0, 0) of no cards", new CardTabulator().card(0, 0), BAD);
+    }
+
+    private static void cardAsPunched() {
+        CHECK.under("CARDS AND FIELDS, Promises 20 and 21: what the columns show, not what is read of a marked card");
+        // 4 + 4 + 7 + 7 + 8 = 30.
+        int[] due = {11, 11, 111, 111, 1111, 0, 0};
+        for (int mark = 1; mark <= 3; mark++) {
+            CardTabulator x = Check.deckOf("d11 g11 w111 h111 r1111");
+            for (int column = 0; column < 15; column++) {
+                x.mark(0, mark, column);
+                for (int what = 0; what < 7; what++) {
+                    CHECK.due("card(0, " + what + ") with the mark " + mark + " and column " + column,
+                        x.card(0, what), due[what]);
+                }
+                CHECK.due("column(0, " + column + ") with the mark " + mark, x.column(0, column),
+                    column == 14 ? 0 : 1);
+            }
+        }
     }
 }

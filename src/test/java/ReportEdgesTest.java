@@ -29,6 +29,7 @@ public final class ReportEdgesTest {
         againAsks();
         againByKeys();
         againByTheRun();
+        theLastLineIsForAll();
         agreesOrNot();
         rankedAsks();
         rankedTies();
@@ -314,6 +315,11 @@ public final class ReportEdgesTest {
         CHECK.dueLine(x, 2, 2, 0, 0, NONE, 1, 0, 0, 0, NONE);
         CHECK.dueLine(x, 3, 3, 0, NONE, NONE, 1, 0, 0, 0, NONE);
         CHECK.dueLine(x, 4, 4, NONE, NONE, NONE, 1, 0, 0, 0, NONE);
+        CHECK.under("Promise 22: 8 the card's number in the deck when it was run");
+        x.move(1, 0);
+        CHECK.due("line(0, 8) behind move", x.line(0, 8), 1);
+        x.take(0);
+        CHECK.due("line(0, 8) behind take", x.line(0, 8), 1);
     }
 
     // ---- CONTROL TOTALS, Promises 4 and 24
@@ -483,6 +489,23 @@ public final class ReportEdgesTest {
         CHECK.due("again(-1, 3) behind back, by the limit of that run", x.again(-1, 3), 100);
     }
 
+    private static void theLastLineIsForAll() {
+        CHECK.under("Promises 17, 24, 26 and 28: the last line is that of all departments");
+        CardTabulator x = Check.deckOf("d1 g1 w1 h20 r20", "d2 g1 w1 h10 r10", "d3 g1 w1 h10 r30");
+        x.control(0, 0);
+        x.control(1, 0);
+        x.control(2, 0);
+        x.set(3, 10);
+        x.run();
+        CHECK.dueLine(x, 12, 4, NONE, NONE, NONE, 3, 40, 90, 10, NONE);
+        CHECK.due("told(2)", x.told(2), 3);
+        CHECK.due("differs(0)", x.differs(0), 3);
+        CHECK.due("differs(1)", x.differs(1), 40);
+        CHECK.due("differs(2)", x.differs(2), 3);
+        CHECK.due("agrees()", x.agrees(), 1);
+        CHECK.dueFloat("mean()", x.mean(), 22.5f);
+    }
+
     private static void agreesOrNot() {
         CHECK.under("Promise 26: 1 if both ways agree, or the report is empty, otherwise 0");
         CardTabulator x = Check.deckOf("d1 g1 w1 h10 r20", "d1 g1 w2 h10 r20", "d1 g1 w1 h10 r20");
@@ -563,12 +586,14 @@ public final class ReportEdgesTest {
         CHECK.due("ranked(0, 2)", x.ranked(0, 2), 1);
         CHECK.due("ranked(0, 3)", x.ranked(0, 3), 103);
         CHECK.due("ranked(1, 3)", x.ranked(1, 3), 99);
-        CardTabulator y = Check.deckOf("d1 g1 w1 h11 r100", "d1 g1 w2 h20 r60");
+        CardTabulator y = Check.deckOf("d1 g1 w1 h10 r100", "d1 g1 w2 h19 r50");
         y.set(3, 10);
         y.run();
+        // Without overtime the wages are 100 and 95; 9 * 50 / 20 = 22 puts the second one first.
         CHECK.due("ranked(0, 2) by the overtime", y.ranked(0, 2), 2);
-        CHECK.due("ranked(0, 3)", y.ranked(0, 3), 150);
-        CHECK.due("ranked(1, 3)", y.ranked(1, 3), 115);
+        CHECK.due("ranked(0, 3)", y.ranked(0, 3), 117);
+        CHECK.due("ranked(1, 2)", y.ranked(1, 2), 1);
+        CHECK.due("ranked(1, 3)", y.ranked(1, 3), 100);
     }
 
     private static void rankedFortyKeys() {
@@ -608,6 +633,9 @@ public final class ReportEdgesTest {
         CardTabulator y = Check.deckOf("d1 g1 w1 h1 r0");
         y.run();
         CHECK.dueFloat("mean() of no wages", y.mean(), 0.0f);
+        CardTabulator z = Check.deckOf("d1 g1 w1 h1 r30");
+        z.run();
+        CHECK.dueFloat("mean() of the least hours", z.mean(), 30.0f);
     }
 
     private static void meanOfTheLastLine() {

@@ -285,6 +285,10 @@ public final class RunningEdgesTest {
             x.set(0, 0);
             x.run();
             CHECK.due("reason(1) without a sequence rule" + name, x.reason(1), firstOf(reasons & ~LESS));
+            x.set(0, 1);
+            x.set(1, 0);
+            x.run();
+            CHECK.due("reason(1) without checks" + name, x.reason(1), firstOf(reasons & ~CHECKED));
         }
     }
 
