@@ -22,7 +22,11 @@ public final class FaceTest {
 
         int found = 0;
         for (Method method : CardTabulator.class.getDeclaredMethods()) {
-            if (Modifier.isPrivate(method.getModifiers()) || method.isSynthetic()) {
+            if (method.isSynthetic()) {
+                continue;
+            }
+            if (Modifier.isPrivate(method.getModifiers())) {
+                check.due("does " + method + " bear a public name", isOpen(method.getName()) ? 1 : 0, 0);
                 continue;
             }
             String name = method.getName() + method.getParameterCount();
@@ -37,9 +41,7 @@ public final class FaceTest {
 
         for (Class<?> inside : CardTabulator.class.getDeclaredClasses()) {
             for (Method method : inside.getDeclaredMethods()) {
-                boolean open = Arrays.stream(CardTabulator.class.getMethods())
-                    .anyMatch(other -> other.getName().equals(method.getName()));
-                check.due("does " + method + " bear a public name", open ? 1 : 0, 0);
+                check.due("does " + method + " bear a public name", isOpen(method.getName()) ? 1 : 0, 0);
             }
         }
 
@@ -61,5 +63,10 @@ public final class FaceTest {
             Modifier.isPublic(CardTabulator.class.getConstructor().getModifiers()) ? 1 : 0, 1);
         check.due("final class", Modifier.isFinal(CardTabulator.class.getModifiers()) ? 1 : 0, 1);
         check.end("FaceTest");
+    }
+
+    private static boolean isOpen(String name) {
+        return Arrays.stream(CardTabulator.class.getMethods())
+            .anyMatch(other -> other.getName().equals(name));
     }
 }
